@@ -64,6 +64,16 @@ public final class ChainsTest {
         chainDue(x, 0, 100, 998, 3);
         x.rule(50000);
         chainDue(x, 49956, 998, 998, 2);
+        SlideRules y = new SlideRules();
+        y.factor(101);
+        y.factor(990);
+        // 1000 would stand nearer, but a READING is 999 at most
+        chainDue(y, 9999, 999, 999, 0);
+        y.clear();
+        y.factor(101);
+        y.factor(150);
+        // midway of 1790 (1.51) and 1818 (1.52): of like ones the least
+        chainDue(y, 1804, 151, 151, 0);
     }
 
     /** On a RULE of 100 steps the PLACE of 999 is LONG itself, so that it is PULLED at once. */
@@ -113,6 +123,9 @@ public final class ChainsTest {
         pairsDue(x, 100, 100, 1, 0, 100, 100, 0, 1, 0);
         pairsDue(x, 999, 999, 10000, 0, 999, 999, 0, 1, 1);
         pairsDue(x, 300, 330, 10, 1, 320, 330, 2, 10, 4);
+        pairsDue(x, 300, 340, 10, 1, 320, 330, 4, 15, 9);
+        pairsDue(x, 300, 340, 20, 1, 320, 340, 2, 6, 4);
+        pairsDue(x, 320, 340, 20, 1, 320, 340, 2, 3, 3);
         Check.due("another rule", x.rule(100), 10000);
         // 9.99 stands at LONG: both of a pair are PULLED, and 9.98 does too
         pairsDue(x, 999, 999, 1, 898, 999, 999, 898, 1, 2);

@@ -93,7 +93,9 @@ public final class LawsTest {
         SlideRules x = new SlideRules();
         Check.due("law -1", x.law(-1, 5), -2);
         Check.due("law 4", x.law(4, 5), -2);
-        Check.due("v 0", x.law(0, 0), -2);
+        for (int law = 0; law < 4; law++) {
+            Check.due("v 0 of law " + law, x.law(law, 0), -2);
+        }
         Check.due("v 61", x.law(2, 61), -2);
         Check.due("v min", x.law(2, Integer.MIN_VALUE), -2);
         Check.due("doubled -1", x.doubled(-1), -2);

@@ -76,7 +76,8 @@ public final class MarksTest {
         SlideRules x = oneScale();
         Check.due("closest of none", x.closest(0, 0), -1);
         x.span(0, 200, 200, 1);
-        Check.due("closest of one", x.closest(0, 1), -1);
+        Check.due("closest of one", x.closest(0, 0), -1);
+        Check.due("closest of one, how near", x.closest(0, 1), -1);
         Check.due("bad goes before none", x.closest(0, 2), -2);
         x.span(0, 300, 300, 1);
         Check.due("closest of two", x.closest(0, 0), 200);

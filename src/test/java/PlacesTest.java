@@ -150,6 +150,10 @@ public final class PlacesTest {
         Check.due("scale -1", x.place(-1, 200), FAR);
         Check.due("scale 1", x.place(1, 200), FAR);
         Check.due("scale max", x.place(Integer.MAX_VALUE, 200), FAR);
+        for (int i = 1; i < 8; i++) {
+            x.scale(true, 1, 10, false);
+        }
+        Check.due("scale 8", x.place(8, 200), FAR);
         Check.due("v 99", x.place(0, 99), FAR);
         Check.due("v 100001", x.place(0, 100001), FAR);
         Check.due("v min", x.place(0, Integer.MIN_VALUE), FAR);

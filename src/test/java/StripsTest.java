@@ -92,7 +92,8 @@ public final class StripsTest {
         cutAll(x, 0, 20, 25, 26);
         Check.due("not moved", x.match(0), 0);
         Check.due("not moved, two", x.match(1), 2);
-        Check.due("what -1", x.match(-1), FAR);
+        Check.due("what -1 of two", x.match(-1), FAR);
+        Check.due("what 2 of two", x.match(2), FAR);
     }
 
     private static void matchesByCounting() {
