@@ -102,7 +102,7 @@ public final class SlideRules {
 
     public int marks(int scale) {
         Scale asked = scaleAt(scale);
-        return asked == null ? BAD : asked.size;
+        return asked == null ? BAD : asked.marks.size;
     }
 
     public int closest(int scale, int what) {
@@ -182,14 +182,11 @@ public final class SlideRules {
         if (!isFactor(v)) {
             return BAD;
         }
-        if (chain.size >= Chain.MOST_FACTORS) {
-            return FULL;
-        }
-        return chain.append(v);
+        return chain.factors.isFull() ? FULL : chain.factors.append(v);
     }
 
     public int clear() {
-        return chain.empty();
+        return chain.factors.empty();
     }
 
     public int chain(int what) {
@@ -254,17 +251,14 @@ public final class SlideRules {
     }
 
     public int cut(int strip, int place) {
-        if (!isStrip(strip) || place < 0 || place > MOST_STRIP_PLACE || place <= strips[strip].last()) {
+        if (!isStrip(strip) || place < 0 || place > MOST_STRIP_PLACE || place <= strips[strip].places.last()) {
             return BAD;
         }
-        if (strips[strip].size >= Strip.MOST_PLACES) {
-            return FULL;
-        }
-        return strips[strip].append(place);
+        return strips[strip].places.isFull() ? FULL : strips[strip].places.append(place);
     }
 
     public int wipe(int strip) {
-        return isStrip(strip) ? strips[strip].empty() : BAD;
+        return isStrip(strip) ? strips[strip].places.empty() : BAD;
     }
 
     public int chosen(int strip, int near, int what) {
@@ -278,10 +272,10 @@ public final class SlideRules {
         if (what < 0 || what > 1) {
             return FAR;
         }
-        if (strips[0].size == 0 || strips[1].size == 0) {
+        if (strips[0].places.size == 0 || strips[1].places.size == 0) {
             return FAR;
         }
-        match.find(strips[0], strips[1]);
+        match.find(strips[0].places, strips[1].places);
         return what == 0 ? match.shift : match.many;
     }
 
@@ -305,11 +299,11 @@ public final class SlideRules {
             case 2:
                 return off;
             case 3:
-                return chain.size;
+                return chain.factors.size;
             case 4:
-                return strips[0].size;
+                return strips[0].places.size;
             case 5:
-                return strips[1].size;
+                return strips[1].places.size;
             case 6:
                 return steps;
             default:
@@ -327,9 +321,9 @@ public final class SlideRules {
             h = 31 * h + place(i, 200);
             h = 31 * h + place(i, 300);
         }
-        h = digestRow(h, chain.factors, chain.size);
+        h = chain.factors.digestOnto(h);
         for (int i = 0; i < STRIPS; i++) {
-            h = digestRow(h, strips[i].places, strips[i].size);
+            h = strips[i].places.digestOnto(h);
         }
         return h;
     }
@@ -380,11 +374,46 @@ public final class SlideRules {
         settings.aimAt(e0, e1, e2);
     }
 
-    private static long digestRow(long h, int[] row, int size) {
-        for (int i = 0; i < size && i < row.length; i++) {
-            h = 31 * h + row[i];
+    /** Numbers in a row, as they come, no more than the row takes. */
+    private static final class Row {
+        final int[] values;
+        int size = 0;
+
+        Row(int most) {
+            values = new int[Math.max(most, 0)];
         }
-        return h;
+
+        boolean isFull() {
+            return size >= values.length;
+        }
+
+        /** Puts v behind the row: how many there are. */
+        int append(int v) {
+            if (!isFull()) {
+                values[size] = v;
+                size++;
+            }
+            return size;
+        }
+
+        /** Empties the row: how many there were. */
+        int empty() {
+            int before = size;
+            size = 0;
+            return before;
+        }
+
+        /** The last number, or NONE. */
+        int last() {
+            return size > 0 ? values[size - 1] : NONE;
+        }
+
+        long digestOnto(long h) {
+            for (int i = 0; i < size; i++) {
+                h = 31 * h + values[i];
+            }
+            return h;
+        }
     }
 
     /** A number in two words: high steps of 2^-44 and low (0 .. 2^44 - 1) steps of 2^-88. */
@@ -400,19 +429,21 @@ public final class SlideRules {
             low = newLow;
         }
 
-        void add(long moreHigh, long moreLow) {
-            long sum = low + moreLow;
-            high += moreHigh + (sum >> BITS);
-            low = sum & MASK;
-        }
-
         /** Adds other (0 or more) by a small divisor, cut down. */
         void addPart(Wide other, int by) {
             if (by < 1) {
                 return;
             }
             long rest = other.high % by;
-            add(other.high / by, ((rest << BITS) + other.low) / by);
+            long sum = low + ((rest << BITS) + other.low) / by;
+            high += other.high / by + (sum >> BITS);
+            low = sum & MASK;
+        }
+
+        void subtract(Wide other) {
+            long rest = low - other.low;
+            high += (rest >> BITS) - other.high;
+            low = rest & MASK;
         }
 
         /** This (0 .. 1) times over by, cut down: times below 2^7 and by below 2^18, so that no word runs over. */
@@ -421,10 +452,9 @@ public final class SlideRules {
                 return;
             }
             long upper = high * times;
-            long lower = ((upper % by) << BITS) + low * times;
-            high = 0;
-            low = 0;
-            add(upper / by, lower / by);
+            long lower = (((upper % by) << BITS) + low * times) / by;
+            high = upper / by + (lower >> BITS);
+            low = lower & MASK;
         }
 
         boolean isZero() {
@@ -504,7 +534,7 @@ public final class SlideRules {
             }
             putLog(top, v);
             putLog(bottom, 10 * fold);
-            top.add(-bottom.high, -bottom.low);
+            top.subtract(bottom);
             long twice = top.floorTimes(2 * steps);
             return (int) Math.floorDiv(twice + parts, 2L * parts);
         }
@@ -518,12 +548,11 @@ public final class SlideRules {
         final int parts;
         final int fold;
         final boolean turned;
-        int size = 0;
+        final Row marks = new Row(MOST_MARKS);
         private int spans = 0;
         private final int[] froms = new int[MOST_SPANS];
         private final int[] tos = new int[MOST_SPANS];
         private final int[] eachs = new int[MOST_SPANS];
-        private final int[] numbers = new int[MOST_MARKS];
         private final int[] places = new int[MOST_MARKS];
         private int placed = 0;
         private int placedSteps = 0;
@@ -545,7 +574,7 @@ public final class SlideRules {
         }
 
         boolean hasRoomFor(int more) {
-            return spans < MOST_SPANS && more <= MOST_MARKS - size;
+            return spans < MOST_SPANS && more <= MOST_MARKS - marks.size;
         }
 
         void addSpan(int from, int to, int each) {
@@ -556,14 +585,13 @@ public final class SlideRules {
             tos[spans] = to;
             eachs[spans] = each;
             spans++;
-            for (int v = from; v <= to && size < MOST_MARKS; v += each) {
-                numbers[size] = v;
-                size++;
+            for (int v = from; v <= to && !marks.isFull(); v += each) {
+                marks.append(v);
             }
         }
 
         int numberAt(int i) {
-            return i >= 0 && i < size ? numbers[i] : NONE;
+            return i >= 0 && i < marks.size ? marks.values[i] : NONE;
         }
 
         /** Places what is not yet placed on a RULE of so many steps. */
@@ -572,19 +600,19 @@ public final class SlideRules {
                 placedSteps = steps;
                 placed = 0;
             }
-            for (; placed < size; placed++) {
-                places[placed] = placeOf(numbers[placed], steps, logs);
+            for (; placed < marks.size; placed++) {
+                places[placed] = placeOf(marks.values[placed], steps, logs);
             }
         }
 
         /** How far the PLACES of the i-th and the next MARK are apart. */
         int gapBehind(int i) {
-            return i >= 0 && i + 1 < size ? Math.abs(places[i + 1] - places[i]) : NONE;
+            return i >= 0 && i + 1 < marks.size ? Math.abs(places[i + 1] - places[i]) : NONE;
         }
 
         int firstOfClosest() {
-            int first = size > 1 ? 0 : NONE;
-            for (int i = 1; i + 1 < size; i++) {
+            int first = marks.size > 1 ? 0 : NONE;
+            for (int i = 1; i + 1 < marks.size; i++) {
                 if (gapBehind(i) < gapBehind(first)) {
                     first = i;
                 }
@@ -593,8 +621,8 @@ public final class SlideRules {
         }
 
         int nearestTo(int place) {
-            int best = size > 0 ? 0 : NONE;
-            for (int i = 1; i < size; i++) {
+            int best = marks.size > 0 ? 0 : NONE;
+            for (int i = 1; i < marks.size; i++) {
                 if (Math.abs(places[i] - place) < Math.abs(places[best] - place)) {
                     best = i;
                 }
@@ -603,12 +631,12 @@ public final class SlideRules {
         }
 
         int readBetween(int place) {
-            for (int i = 0; i + 1 < size; i++) {
+            for (int i = 0; i + 1 < marks.size; i++) {
                 int p1 = places[i];
                 int p2 = places[i + 1];
                 if (p1 != p2 && Math.min(p1, p2) <= place && place <= Math.max(p1, p2)) {
-                    long wide = numbers[i + 1] - numbers[i];
-                    return numbers[i] + (int) (wide * (place - p1) / (p2 - p1));
+                    long wide = marks.values[i + 1] - marks.values[i];
+                    return marks.values[i] + (int) (wide * (place - p1) / (p2 - p1));
                 }
             }
             return NONE;
@@ -676,30 +704,15 @@ public final class SlideRules {
 
     /** A PRODUCT CHAIN: its factors, and the place that they come to. */
     private static final class Chain {
-        static final int MOST_FACTORS = 12;
+        private static final int MOST_FACTORS = 12;
         // 12 factors below a thousand come to less than 10^36: four limbs
         private static final int LIMBS = 4;
         private static final long LIMB = 1000000000L;
 
-        final int[] factors = new int[MOST_FACTORS];
-        int size = 0;
+        final Row factors = new Row(MOST_FACTORS);
         int place = 0;
         int pulled = 0;
         private final long[] limbs = new long[LIMBS];
-
-        int append(int v) {
-            if (size < MOST_FACTORS) {
-                factors[size] = v;
-                size++;
-            }
-            return size;
-        }
-
-        int empty() {
-            int before = size;
-            size = 0;
-            return before;
-        }
 
         void begin() {
             place = 0;
@@ -716,14 +729,14 @@ public final class SlideRules {
 
         void walk(PlainScale plain) {
             begin();
-            for (int i = 0; i < size; i++) {
-                move(factors[i], plain);
+            for (int i = 0; i < factors.size; i++) {
+                move(factors.values[i], plain);
             }
         }
 
         /** THE TRUTH is the first three digits of the whole product, each factor having three. */
         int truth() {
-            if (size == 0) {
+            if (factors.size == 0) {
                 return LEAST_FACTOR;
             }
             multiplyOut();
@@ -738,10 +751,10 @@ public final class SlideRules {
             for (int i = 0; i < LIMBS; i++) {
                 limbs[i] = i == 0 ? 1 : 0;
             }
-            for (int k = 0; k < size; k++) {
+            for (int k = 0; k < factors.size; k++) {
                 long carry = 0;
                 for (int i = 0; i < LIMBS; i++) {
-                    long made = limbs[i] * factors[k] + carry;
+                    long made = limbs[i] * factors.values[k] + carry;
                     limbs[i] = made % LIMB;
                     carry = made / LIMB;
                 }
@@ -918,39 +931,21 @@ public final class SlideRules {
 
     /** A STRIP: places, rising. */
     private static final class Strip {
-        static final int MOST_PLACES = 60;
+        private static final int MOST_PLACES = 60;
 
-        final int[] places = new int[MOST_PLACES];
-        int size = 0;
-
-        int last() {
-            return size > 0 ? places[size - 1] : NONE;
-        }
-
-        int append(int place) {
-            if (size < MOST_PLACES) {
-                places[size] = place;
-                size++;
-            }
-            return size;
-        }
-
-        int empty() {
-            int before = size;
-            size = 0;
-            return before;
-        }
+        final Row places = new Row(MOST_PLACES);
 
         /** The place CHOSEN as number which; how many are CHOSEN, if which is NONE. */
         int choose(int near, int which) {
             int many = 0;
             int latest = 0;
-            for (int i = 0; i < size; i++) {
-                if (many == 0 || places[i] - latest >= near) {
+            for (int i = 0; i < places.size; i++) {
+                int place = places.values[i];
+                if (many == 0 || place - latest >= near) {
                     if (many == which) {
-                        return places[i];
+                        return place;
                     }
-                    latest = places[i];
+                    latest = place;
                     many++;
                 }
             }
@@ -963,30 +958,30 @@ public final class SlideRules {
         int shift = 0;
         int many = 0;
 
-        void find(Strip first, Strip second) {
+        void find(Row first, Row second) {
             many = 0;
             shift = 0;
             for (int i = 0; i < first.size; i++) {
                 for (int j = 0; j < second.size; j++) {
                     // what begins at (i, j) is no more than what is left of either
                     if (Math.min(first.size - i, second.size - j) >= many) {
-                        weigh(first.places[i] - second.places[j], alike(first, i, second, j));
+                        weigh(first.values[i] - second.values[j], alike(first, i, second, j));
                     }
                 }
             }
         }
 
         /** How many places from rows i and j on are alike when the second is moved so that these two are. */
-        private static int alike(Strip first, int i, Strip second, int j) {
-            int moved = first.places[i] - second.places[j];
+        private static int alike(Row first, int i, Row second, int j) {
+            int moved = first.values[i] - second.values[j];
             int same = 0;
             int below = j;
             for (int above = i; above < first.size; above++) {
-                int wanted = first.places[above] - moved;
-                while (below < second.size && second.places[below] < wanted) {
+                int wanted = first.values[above] - moved;
+                while (below < second.size && second.values[below] < wanted) {
                     below++;
                 }
-                if (below < second.size && second.places[below] == wanted) {
+                if (below < second.size && second.values[below] == wanted) {
                     same++;
                 }
             }
