@@ -90,6 +90,11 @@ public final class MarksTest {
         Check.due("how near on a shorter rule", x.closest(0, 1), 8);
         Check.due("what -1", x.closest(0, -1), -2);
         Check.due("no scale", x.closest(1, 0), -2);
+        SlideRules z = oneScale();
+        z.span(0, 200, 400, 200);
+        z.span(0, 410, 810, 400);
+        Check.due("closest in the middle", z.closest(0, 0), 400);
+        Check.due("how near in the middle", z.closest(0, 1), 107);
         SlideRules y = new SlideRules();
         y.scale(true, 1, 10, true);
         y.rule(100);
