@@ -820,18 +820,20 @@ public final class SlideRules {
     }
 
     /**
-     * SETTINGS to a goal of three powers, none of which leaves -8 .. 8 on the
-     * way. Each setting moves one power alone, so the fewest of all are the
-     * fewest of each, and any setting that brings its power nearer is on a
-     * shortest row.
+     * SETTINGS to a goal of three powers. Each setting moves one power alone,
+     * so the fewest of all are the fewest of each, and any setting that brings
+     * its power nearer is on a shortest row. Powers may leave -8 .. 8 on the
+     * way; but eight settings of no more than three each are enough for any
+     * power told, so no shortest row leaves the REACH.
      */
     private static final class Settings {
         private static final int POWERS = 3;
-        private static final int WIDTH = 2 * MOST_POWER + 1;
+        private static final int REACH = MOST_POWER * MOST_PARTS;
+        private static final int WIDTH = 2 * REACH + 1;
 
         private final boolean[] multiplies = new boolean[MOST_PARTS + 1];
         private final boolean[] divides = new boolean[MOST_PARTS + 1];
-        // away[k][x]: the fewest settings from power x - 8 of number k to its goal, or NONE
+        // away[k][x]: the fewest settings from power x - REACH of number k to its goal, or NONE
         private final int[][] away = new int[POWERS][WIDTH];
         private final int[] now = new int[POWERS];
 
@@ -853,9 +855,9 @@ public final class SlideRules {
         }
 
         void aimAt(int e0, int e1, int e2) {
-            measure(away[0], e0 + MOST_POWER);
-            measure(away[1], e1 + MOST_POWER);
-            measure(away[2], e2 + MOST_POWER);
+            measure(away[0], e0 + REACH);
+            measure(away[1], e1 + REACH);
+            measure(away[2], e2 + REACH);
         }
 
         private void measure(int[] row, int goal) {
@@ -886,10 +888,10 @@ public final class SlideRules {
         int fewestToGoal() {
             int many = 0;
             for (int k = 0; k < POWERS; k++) {
-                if (away[k][MOST_POWER] == NONE) {
+                if (away[k][REACH] == NONE) {
                     return NONE;
                 }
-                many += away[k][MOST_POWER];
+                many += away[k][REACH];
             }
             return many;
         }
@@ -899,7 +901,7 @@ public final class SlideRules {
                 return NONE;
             }
             for (int k = 0; k < POWERS; k++) {
-                now[k] = MOST_POWER;
+                now[k] = REACH;
             }
             int code = NONE;
             for (int made = 0; made <= i; made++) {

@@ -1,6 +1,6 @@
 import java.math.BigInteger;
-import java.util.ArrayDeque;
 import java.util.ArrayList;
+import java.util.Collections;
 import java.util.HashMap;
 import java.util.HashSet;
 import java.util.List;
@@ -261,48 +261,59 @@ final class Model {
         return all[what];
     }
 
-    /** The moves there are, in the order of their codes: code, number, by how much. */
-    private List<int[]> moves() {
-        List<int[]> all = new ArrayList<>();
+    /** The settings of one number that there are, in the order of their codes: 100 and s to part, s to multiply. */
+    private List<Integer> sorts() {
+        List<Integer> all = new ArrayList<>();
         for (int sort = 0; sort < 2; sort++) {
-            for (int k = 0; k < 3; k++) {
-                for (int s = 1; s <= 3; s++) {
-                    boolean can = false;
-                    for (Rod rod : rods) {
-                        can |= rod.slide && rod.q == s && (sort == 1 || !rod.turned);
-                    }
-                    if (can) {
-                        all.add(new int[] {100 * sort + 10 * k + s, k, sort == 0 ? s : -s});
-                    }
+            for (int s = 1; s <= 3; s++) {
+                boolean can = false;
+                for (Rod rod : rods) {
+                    can |= rod.slide && rod.q == s && (sort == 1 || !rod.turned);
+                }
+                if (can) {
+                    all.add(100 * sort + s);
                 }
             }
         }
         return all;
     }
 
-    /** Breadth first from all powers 0; rows are found in their order. */
-    private List<Integer> firstRow(int... goal) {
-        Map<List<Integer>, List<Integer>> rows = new HashMap<>();
-        ArrayDeque<List<Integer>> open = new ArrayDeque<>();
-        List<Integer> start = List.of(0, 0, 0);
-        rows.put(start, List.of());
-        open.add(start);
-        List<Integer> wanted = List.of(goal[0], goal[1], goal[2]);
-        List<int[]> moves = moves();
-        while (!open.isEmpty() && !rows.containsKey(wanted)) {
-            List<Integer> here = open.poll();
-            for (int[] move : moves) {
-                List<Integer> next = new ArrayList<>(here);
-                next.set(move[1], here.get(move[1]) + move[2]);
-                if (!out(next.get(move[1]), -8, 8) && !rows.containsKey(next)) {
-                    List<Integer> row = new ArrayList<>(rows.get(here));
-                    row.add(move[0]);
-                    rows.put(next, row);
-                    open.add(next);
-                }
+    /** The first row, rising, of so many settings from the at-th sort on that comes to the power, or null. */
+    private static List<Integer> rising(List<Integer> sorts, int at, int many, int power) {
+        if (at == sorts.size()) {
+            return many == 0 && power == 0 ? List.of() : null;
+        }
+        int sort = sorts.get(at);
+        int by = sort < 100 ? sort : 100 - sort;
+        for (int times = many; times >= 0; times--) {
+            List<Integer> rest = rising(sorts, at + 1, many - times, power - times * by);
+            if (rest != null) {
+                List<Integer> all = new ArrayList<>(Collections.nCopies(times, sort));
+                all.addAll(rest);
+                return all;
             }
         }
-        return rows.get(wanted);
+        return null;
+    }
+
+    /** Settings may change places, so the first row is the settings of all three numbers, rising by their codes. */
+    private List<Integer> firstRow(int... goal) {
+        List<Integer> sorts = sorts();
+        List<Integer> all = new ArrayList<>();
+        for (int k = 0; k < 3; k++) {
+            List<Integer> row = null;
+            for (int many = 0; many <= 12 && row == null; many++) {
+                row = rising(sorts, 0, many, goal[k]);
+            }
+            if (row == null) {
+                return null;
+            }
+            for (int sort : row) {
+                all.add(sort + 10 * k);
+            }
+        }
+        Collections.sort(all);
+        return all;
     }
 
     int fewest(int e0, int e1, int e2) {
