@@ -41,7 +41,6 @@ public final class SlideRules {
         for (int i = 0; i < STRIPS; i++) {
             strips[i] = new Strip();
         }
-        plain.cutFor(steps, logs);
     }
 
     // ---- scales, marks
@@ -52,7 +51,6 @@ public final class SlideRules {
         }
         int before = this.steps;
         this.steps = steps;
-        plain.cutFor(steps, logs);
         return before;
     }
 
@@ -193,6 +191,7 @@ public final class SlideRules {
         if (what < 0 || what > 4) {
             return FAR;
         }
+        plain.cutFor(steps, logs);
         chain.walk(plain);
         switch (what) {
             case 0:
@@ -215,6 +214,7 @@ public final class SlideRules {
         if ((to - from) / d + 1 > MOST_PAIR_NUMBERS) {
             return BAD;
         }
+        plain.cutFor(steps, logs);
         sums.sumUp(from, to, d, plain);
         switch (what) {
             case 0:
@@ -656,7 +656,7 @@ public final class SlideRules {
         }
     }
 
-    /** The plain SCALE of one tenfold: PLACES of 100 .. 999, which never fall. */
+    /** The plain SCALE of one tenfold, cut when it is asked for: PLACES of 100 .. 999, which never fall. */
     private static final class PlainScale {
         private static final int NUMBERS = MOST_FACTOR - LEAST_FACTOR + 1;
 
@@ -664,6 +664,9 @@ public final class SlideRules {
         private final int[] places = new int[NUMBERS];
 
         void cutFor(int newSteps, Logs logs) {
+            if (newSteps == steps) {
+                return;
+            }
             steps = newSteps;
             for (int i = 0; i < NUMBERS; i++) {
                 places[i] = logs.placeOf(LEAST_FACTOR + i, newSteps, 1, LEAST_FOLD);

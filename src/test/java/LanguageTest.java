@@ -13,6 +13,10 @@ public final class LanguageTest {
         "\\b(Float|Double)\\b", "%[^;]*\\b0\\b", "\\bString\\b", "\"",
     };
     private static final Pattern METHOD = Pattern.compile("^( {4}| {8})(?! )[a-zA-Z].*\\) \\{$");
+    private static final Pattern CONSTRUCTOR =
+            Pattern.compile("(?s)\\n( {4}| {8})(?:public )?[A-Z]\\w*\\([^\\n]*\\) \\{\\n(.*?)\\n\\1\\}\\n");
+    private static final Pattern HELD =
+            Pattern.compile("(?m)^ {4,8}(?:private )?final (?:[A-Z]\\w*|\\w+\\S*\\[\\]) (\\w+)(?: = .*)?;");
 
     public static void main(String[] args) throws IOException {
         String text = Files.readString(Path.of("src/main/java/SlideRules.java"));
@@ -26,7 +30,31 @@ public final class LanguageTest {
             Check.that("Math." + library.group(1), library.group(1).matches("abs|min|max|floorDiv|floorMod"));
         }
         sizes(code);
+        constructors(code);
         Check.end();
+    }
+
+    /** "A constructor .. hands out nothing of the object that it makes": no object that it holds is an argument. */
+    private static void constructors(String code) {
+        String held = "this|" + heldObjects(code);
+        Check.that("objects that are held: " + held, held.contains("|logs|") && held.contains("|marks|"));
+        Pattern handed = Pattern.compile("\\([^()]*(?<!\\.)\\b(" + held + ")\\b[^().]*\\)");
+        Matcher made = CONSTRUCTOR.matcher(code);
+        int many = 0;
+        while (made.find()) {
+            many++;
+            Check.that("a constructor hands out nothing: " + made.group(2), !handed.matcher(made.group(2)).find());
+        }
+        Check.due("constructors seen", many, 4);
+    }
+
+    private static String heldObjects(String code) {
+        StringBuilder names = new StringBuilder();
+        Matcher field = HELD.matcher(code);
+        while (field.find()) {
+            names.append(names.length() == 0 ? "" : "|").append(field.group(1));
+        }
+        return names.toString();
     }
 
     private static void sizes(String code) {
